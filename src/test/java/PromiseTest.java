@@ -1,25 +1,19 @@
-/** Each promise of the document by itself: ordinary inputs, the edges it names, and wrong inputs. */
-public final class PromiseTest {
-    private static final int NIL = 0, INT = 1, OBJECT = 2;
-    private static final int REFUSED = KeepHeap.REFUSED, FULL = KeepHeap.FULL;
-    private static final long NO = Answers.NONE, EMPTY = Answers.NIL;
-
-    private static final Answers answers = new Answers();
-
+/**
+ * Each promise of the document by itself, in ordinary use and with wrong inputs; the boundary cases,
+ * sentence by sentence, are in SlotBoundaryTest and LogBoundaryTest.
+ */
+public final class PromiseTest extends HeapTest {
     public static void main(String[] args) {
         newObject();
         make();
         makeTakesTheLeastFree();
         set();
-        setRefuses();
-        setIsFull();
         get();
         push();
         pop();
         put();
         item();
         root();
-        rootIsFull();
         rooted();
         commitOfObjects();
         commitSeesTheOrderOfFields();
@@ -32,25 +26,13 @@ public final class PromiseTest {
         sweepUndoesFirst();
         sync();
         crash();
-        crashTellsBytesApart();
         crashLosesWhatIsNotKept();
-        crashLeavesSweeps();
-        nineCommits();
         keptStatesStayApart();
         kind();
         size();
         count();
         countOfBytes();
-        answers.finish();
-    }
-
-    private static KeepHeap begin(String promise) {
-        answers.begin(promise);
-        return new KeepHeap();
-    }
-
-    private static void due(String call, long got, long want) {
-        answers.due(call, got, want);
+        finish();
     }
 
     private static void newObject() {
@@ -107,58 +89,17 @@ public final class PromiseTest {
         due("a second one", x.set(0, -7, OBJECT, 0), 2);
         due("the first again", x.set(0, 7, INT, 6), 2);
         due("get 7", x.get(0, 7), 6);
-        due("get -7", x.get(0, -7), Answers.object(0));
+        due("get -7", x.get(0, -7), object(0));
         due("nil without", x.set(0, 9, NIL, 3), 2);
         due("nil takes away", x.set(0, 7, NIL, 3), 1);
         due("get 7 without", x.get(0, 7), EMPTY);
-        due("get -7 still", x.get(0, -7), Answers.object(0));
+        due("get -7 still", x.get(0, -7), object(0));
         due("nil again", x.set(0, 7, NIL, 3), 1);
         due("extreme name", x.set(0, Integer.MIN_VALUE, INT, Integer.MIN_VALUE), 2);
         due("extreme get", x.get(0, Integer.MIN_VALUE), Integer.MIN_VALUE);
         due("extreme name", x.set(0, Integer.MAX_VALUE, INT, Integer.MAX_VALUE), 3);
         due("extreme get", x.get(0, Integer.MAX_VALUE), Integer.MAX_VALUE);
         due("size", x.size(0), 3);
-    }
-
-    private static void setRefuses() {
-        KeepHeap x = begin("3 set, refused");
-        x.make(false);
-        x.make(true);
-        due("no record", x.set(2, 1, INT, 1), REFUSED);
-        due("below", x.set(-1, 1, INT, 1), REFUSED);
-        due("beyond", x.set(100, 1, INT, 1), REFUSED);
-        due("a row", x.set(1, 1, INT, 1), REFUSED);
-        due("nil for a row", x.set(1, 1, NIL, 1), REFUSED);
-        due("nil for nothing", x.set(2, 1, NIL, 1), REFUSED);
-        due("no sort 3", x.set(0, 1, 3, 0), REFUSED);
-        due("no sort -1", x.set(0, 1, -1, 0), REFUSED);
-        due("no object 2", x.set(0, 1, OBJECT, 2), REFUSED);
-        due("no object -1", x.set(0, 1, OBJECT, -1), REFUSED);
-        due("no object 100", x.set(0, 1, OBJECT, 100), REFUSED);
-        due("nothing is done", x.size(0), 0);
-        x.set(0, 1, INT, 4);
-        due("no such value for a field", x.set(0, 1, OBJECT, 2), REFUSED);
-        due("the field stays", x.get(0, 1), 4);
-    }
-
-    private static void setIsFull() {
-        KeepHeap x = begin("3 set, full");
-        x.make(false);
-        for (int name = 1; name <= 8; name++) {
-            due("set " + name, x.set(0, name, INT, name * 10), name);
-        }
-        due("a ninth", x.set(0, 9, INT, 90), FULL);
-        due("no such value", x.set(0, 9, OBJECT, 5), REFUSED);
-        due("nil without", x.set(0, 9, NIL, 0), 8);
-        due("nothing is done", x.get(0, 9), EMPTY);
-        due("one of the eight", x.set(0, 8, INT, 81), 8);
-        due("get it", x.get(0, 8), 81);
-        due("take one", x.set(0, 3, NIL, 0), 7);
-        due("then the ninth", x.set(0, 9, INT, 90), 8);
-        for (int name = 4; name <= 7; name++) {
-            due("get " + name, x.get(0, name), name * 10);
-        }
-        due("get 9", x.get(0, 9), 90);
     }
 
     private static void get() {
@@ -170,7 +111,7 @@ public final class PromiseTest {
         x.set(0, 0, INT, 0);
         due("zero", x.get(0, 0), 0);
         x.set(0, 0, OBJECT, 1);
-        due("an object", x.get(0, 0), Answers.object(1));
+        due("an object", x.get(0, 0), object(1));
         x.set(0, 0, INT, -1);
         due("below zero", x.get(0, 0), -1);
         due("a row", x.get(1, 0), NO);
@@ -202,7 +143,7 @@ public final class PromiseTest {
         due("the last", x.item(0, 19), 20);
         due("the first", x.item(0, 0), 5);
         due("the second", x.item(0, 1), EMPTY);
-        due("the third", x.item(0, 2), Answers.object(0));
+        due("the third", x.item(0, 2), object(0));
     }
 
     private static void pop() {
@@ -214,7 +155,7 @@ public final class PromiseTest {
         x.push(0, INT, 5);
         x.push(0, NIL, 5);
         x.push(0, OBJECT, 1);
-        due("an object", x.pop(0), Answers.object(1));
+        due("an object", x.pop(0), object(1));
         due("size", x.size(0), 2);
         due("nil", x.pop(0), EMPTY);
         due("an int", x.pop(0), 5);
@@ -237,7 +178,7 @@ public final class PromiseTest {
         x.push(0, INT, 6);
         due("the first", x.put(0, 0, OBJECT, 1), 0);
         due("the last", x.put(0, 1, NIL, 1), 0);
-        due("get the first", x.item(0, 0), Answers.object(1));
+        due("get the first", x.item(0, 0), object(1));
         due("get the last", x.item(0, 1), EMPTY);
         due("behind", x.put(0, 2, INT, 1), REFUSED);
         due("before", x.put(0, -1, INT, 1), REFUSED);
@@ -247,7 +188,7 @@ public final class PromiseTest {
         due("nothing", x.put(2, 0, INT, 1), REFUSED);
         due("below", x.put(-1, 0, INT, 1), REFUSED);
         due("beyond", x.put(100, 0, INT, 1), REFUSED);
-        due("the first stays", x.item(0, 0), Answers.object(1));
+        due("the first stays", x.item(0, 0), object(1));
         due("size", x.size(0), 2);
         x.pop(0);
         due("what was popped", x.put(0, 1, INT, 1), REFUSED);
@@ -285,31 +226,14 @@ public final class PromiseTest {
         due("nil without", x.root(5, NIL, 1), 2);
         due("nil", x.root(-3, NIL, 1), 1);
         due("without", x.rooted(-3), EMPTY);
-        due("the other one", x.rooted(4), Answers.object(0));
+        due("the other one", x.rooted(4), object(0));
         due("no object 1", x.root(4, OBJECT, 1), REFUSED);
         due("no object -1", x.root(4, OBJECT, -1), REFUSED);
         due("no object 100", x.root(4, OBJECT, 100), REFUSED);
         due("no sort 3", x.root(4, 3, 1), REFUSED);
         due("no sort -1", x.root(4, -1, 1), REFUSED);
-        due("the other one stays", x.rooted(4), Answers.object(0));
+        due("the other one stays", x.rooted(4), object(0));
         due("count", x.count(1), 1);
-    }
-
-    private static void rootIsFull() {
-        KeepHeap x = begin("9 root, full");
-        for (int name = 1; name <= 12; name++) {
-            due("root " + name, x.root(name, INT, -name), name);
-        }
-        due("one more", x.root(13, INT, 1), FULL);
-        due("no such value", x.root(13, OBJECT, 1), REFUSED);
-        due("nil without", x.root(13, NIL, 1), 12);
-        due("nothing is done", x.rooted(13), EMPTY);
-        due("one of the twelve", x.root(12, INT, 3), 12);
-        due("rooted", x.rooted(12), 3);
-        due("take one", x.root(1, NIL, 3), 11);
-        due("then one more", x.root(13, INT, 1), 12);
-        due("rooted 13", x.rooted(13), 1);
-        due("rooted 2", x.rooted(2), -2);
     }
 
     private static void rooted() {
@@ -318,7 +242,7 @@ public final class PromiseTest {
         x.make(false);
         x.root(0, OBJECT, 0);
         x.root(Integer.MIN_VALUE, INT, Integer.MAX_VALUE);
-        due("an object", x.rooted(0), Answers.object(0));
+        due("an object", x.rooted(0), object(0));
         due("an int", x.rooted(Integer.MIN_VALUE), Integer.MAX_VALUE);
         due("still without", x.rooted(1), EMPTY);
     }
@@ -446,7 +370,7 @@ public final class PromiseTest {
         due("size", x.size(0), 1);
         due("item", x.item(1, 0), 6);
         due("kind", x.kind(2), 0);
-        due("rooted 1", x.rooted(1), Answers.object(0));
+        due("rooted 1", x.rooted(1), object(0));
         due("rooted 2", x.rooted(2), EMPTY);
         due("again", x.undo(), 0);
         due("what waits", x.count(2), 1);
@@ -508,7 +432,7 @@ public final class PromiseTest {
         for (int o = 0; o < 10; o++) {
             due("kind " + o, x.kind(o), kinds[o]);
         }
-        due("the slots stay", x.item(0, 2), Answers.object(1));
+        due("the slots stay", x.item(0, 2), object(1));
         x.set(1, 6, NIL, 0);
         x.commit();
         due("a link less", x.sweep(), 1);
@@ -526,7 +450,7 @@ public final class PromiseTest {
         due("none goes", x.sweep(), 0);
         due("undone: kind", x.kind(1), 0);
         due("undone: size", x.size(0), 0);
-        due("undone: root", x.rooted(1), Answers.object(0));
+        due("undone: root", x.rooted(1), object(0));
         due("waiting", x.count(2), 1);
         x.make(false);
         x.commit();
@@ -577,32 +501,6 @@ public final class PromiseTest {
         due("size still", x.size(0), 2);
     }
 
-    private static void crashTellsBytesApart() {
-        int[] bytes = {0, 7, 8, 9, 31, 32, 45, 46, 53, 54, 55};
-        int[] left = {0, 0, 1, 1, 1, 2, 2, 3, 3, 4, 4};
-        for (int k = 0; k < bytes.length; k++) {
-            KeepHeap x = begin("15 crash with " + bytes[k]);
-            x.commit();
-            x.make(true);
-            x.commit();
-            x.root(1, OBJECT, 0);
-            x.commit();
-            x.commit();
-            due("crash", x.crash(bytes[k]), left[k]);
-            due("objects", x.count(0), left[k] >= 2 ? 1 : 0);
-            due("roots", x.count(1), left[k] >= 3 ? 1 : 0);
-            due("waiting", x.count(2), 0);
-            int[] whole = {0, 8, 32, 46, 54};
-            due("bytes", x.count(3), whole[left[k]]);
-        }
-        KeepHeap x = begin("15 crash, a small one behind a large one");
-        x.make(true);
-        x.commit();
-        x.commit();
-        due("is lost too", x.crash(23), 0);
-        due("bytes", x.count(3), 0);
-    }
-
     private static void crashLosesWhatIsNotKept() {
         KeepHeap x = begin("15 crash, not kept");
         x.make(true);
@@ -622,45 +520,6 @@ public final class PromiseTest {
         due("compared with the state after the crash", x.commit(), 24);
         due("item", x.item(0, 0), 2);
         due("size", x.size(0), 1);
-    }
-
-    private static void crashLeavesSweeps() {
-        for (int n = 31; n <= 32; n++) {
-            KeepHeap x = begin("15 crash behind a sweep with " + n);
-            x.make(true);
-            x.commit();
-            due("sweep", x.sweep(), 1);
-            due("crash", x.crash(n), n == 32 ? 2 : 1);
-            due("objects", x.count(0), n == 32 ? 0 : 1);
-            due("bytes", x.count(3), n == 32 ? 32 : 24);
-        }
-    }
-
-    private static void nineCommits() {
-        for (int commits = 7; commits <= 20; commits++) {
-            KeepHeap x = begin("SAFE with " + commits + " commits");
-            x.make(true);
-            for (int k = 0; k < commits; k++) {
-                x.push(0, INT, k);
-                due("commit " + k, x.commit(), 24);
-                due("waiting " + k, x.count(2), Math.min(k + 1, 8));
-            }
-            int safe = Math.max(0, commits - 8);
-            due("crash", x.crash(47), 1);
-            due("size", x.size(0), safe + 1);
-            due("bytes", x.count(3), 24 * (safe + 1));
-            due("the last item", x.item(0, safe), safe);
-        }
-        KeepHeap x = begin("SAFE with a sweep as the ninth");
-        x.make(true);
-        for (int k = 0; k < 8; k++) {
-            x.commit();
-        }
-        due("sweep", x.sweep(), 1);
-        due("waiting", x.count(2), 8);
-        due("crash", x.crash(0), 0);
-        due("the first commit is safe", x.count(0), 1);
-        due("bytes", x.count(3), 24);
     }
 
     private static void keptStatesStayApart() {
