@@ -314,7 +314,7 @@ public final class SlotBoundaryTest extends HeapTest {
     private static void setNames() {
         KeepHeap x = begin("Terms: each a NAME, an int");
         makeRecord(x, 0);
-        int[] names = {LEAST, GREATEST, 0, -1, 1, 256, 1 << 16, 1 << 31 >> 1};
+        int[] names = {LEAST, GREATEST, 0, -1, 1, 256, 1 << 16, -(1 << 30)};
         for (int k = 0; k < names.length; k++) {
             due("set " + names[k], x.set(0, names[k], INT, k), k + 1);
             due("root " + names[k], x.root(names[k], INT, -k), k + 1);
