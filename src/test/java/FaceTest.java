@@ -9,10 +9,11 @@ import java.util.TreeSet;
 /** The class has the document's face and nothing else that others can see; no call ever throws. */
 public final class FaceTest {
     private static final Set<String> FACE = new TreeSet<>(Arrays.asList(
-        "int make(boolean)", "int set(int,int,int,int)", "long get(int,int)", "int push(int,int,int)",
-        "long pop(int)", "int put(int,int,int,int)", "long item(int,int)", "int root(int,int,int)",
-        "long rooted(int)", "int commit()", "int undo()", "int sweep()", "int sync()",
-        "int crash(int)", "int kind(int)", "int size(int)", "int count(int)"));
+        "public int make(boolean)", "public int set(int,int,int,int)", "public long get(int,int)",
+        "public int push(int,int,int)", "public long pop(int)", "public int put(int,int,int,int)",
+        "public long item(int,int)", "public int root(int,int,int)", "public long rooted(int)",
+        "public int commit()", "public int undo()", "public int sweep()", "public int sync()",
+        "public int crash(int)", "public int kind(int)", "public int size(int)", "public int count(int)"));
     private static final int[] EDGES = {
         Integer.MIN_VALUE, -2, -1, 0, 1, 2, 3, 4, 7, 8, 11, 12, 19, 20, 21, 99, 100, 101, Integer.MAX_VALUE};
 
@@ -34,9 +35,12 @@ public final class FaceTest {
         answers.due("public final", modifiers, Modifier.PUBLIC | Modifier.FINAL);
         answers.due("constructors", KeepHeap.class.getDeclaredConstructors().length, 1);
         answers.due("public constructors", KeepHeap.class.getConstructors().length, 1);
+        answers.due("interfaces", KeepHeap.class.getInterfaces().length, 0);
+        answers.due("of no other class", KeepHeap.class.getSuperclass() == Object.class ? 1 : 0, 1);
         for (Class<?> inside : KeepHeap.class.getDeclaredClasses()) {
             answers.due(inside + " is static", inside.getModifiers() & Modifier.STATIC, Modifier.STATIC);
-            answers.due(inside + " is not public", inside.getModifiers() & Modifier.PUBLIC, 0);
+            int seen = inside.getModifiers() & (Modifier.PUBLIC | Modifier.PROTECTED);
+            answers.due(inside + " is neither public nor protected", seen, 0);
         }
     }
 
@@ -79,7 +83,8 @@ public final class FaceTest {
         for (Class<?> type : method.getParameterTypes()) {
             text.append(text.length() == 0 ? "" : ",").append(type);
         }
-        return method.getReturnType() + " " + method.getName() + "(" + text + ")";
+        String before = Modifier.toString(method.getModifiers()) + " " + method.getReturnType();
+        return before + " " + method.getName() + "(" + text + ")";
     }
 
     /** A heap with all 100 objects, some of them full, and all roots. */

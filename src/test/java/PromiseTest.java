@@ -32,6 +32,7 @@ public final class PromiseTest extends HeapTest {
         size();
         count();
         countOfBytes();
+        exampleOfTheReadme();
         finish();
     }
 
@@ -615,5 +616,26 @@ public final class PromiseTest extends HeapTest {
             x.commit();
         }
         due("what became safe counts", x.count(3), 200);
+    }
+
+    private static void exampleOfTheReadme() {
+        KeepHeap x = begin("README.md, Use");
+        int person = x.make(false);
+        int list = x.make(true);
+        due("a record", person, 0);
+        due("a row", list, 1);
+        due("set", x.set(person, 7, INT, 42), 1);
+        due("push", x.push(list, OBJECT, person), 1);
+        due("root", x.root(1, OBJECT, list), 1);
+        due("commit", x.commit(), 46);
+        due("set nil", x.set(person, 7, NIL, 0), 0);
+        due("undo", x.undo(), 16);
+        due("the field is back", x.get(person, 7), 42);
+        due("sync", x.sync(), 1);
+        due("pop", x.pop(list), object(person));
+        due("commit without it", x.commit(), 24);
+        due("sweep", x.sweep(), 1);
+        due("crash", x.crash(24), 1);
+        due("kind", x.kind(person), 1);
     }
 }
